@@ -46,6 +46,7 @@ public final class LinesTest {
         .program(Code.near(0x1D, 3), Code.near(0x1D, -1), Code.near(0x1E, 3))
         .run(0).hasLines(18, "010").run(0).hasLines(14, "010").run(0).hasLines(18, "000").hasLines(15, "1")
         .hasStatus(0xFFF0).hasCounter(262);
+    new Bench(checks, "1D00h").register(12, 20).program(0x1D00).run(0).hasLines(9, "010").hasCounter(258);
     new Bench(checks, "lines count modulo 64").register(12, 0xFFFF)
         .program(Code.near(0x1D, 1), Code.near(0x1D, 127), Code.near(0x1D, -128))
         .run(0).hasLines(0, "1").run(0).hasLines(62, "1").run(0).hasLines(63, "1");
@@ -96,6 +97,8 @@ public final class LinesTest {
         .program(Code.register(13, 9, 1)).run(0).hasRegister(1, 0x0101).hasStatus(0xC400);
     new Bench(checks, "16 lines to").register(12, 0).register(1, 0).wires(0, "10000000000000011")
         .program(Code.register(13, 0, 1)).run(0).hasRegister(1, 0x8001).hasStatus(0x8000);
+    new Bench(checks, "16 lines to 0").register(12, 0).register(1, 5).wires(15, "01").wires(63, "1")
+        .program(Code.register(13, 0, 1)).run(0).hasRegister(1, 0).hasStatus(0x2000);
   }
 
   private static void operandsOfLines() {

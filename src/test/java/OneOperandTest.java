@@ -60,6 +60,8 @@ public final class OneOperandTest {
     new Bench(checks, "switch").status(0xA5A5).register(5, 301).word(300, 0x4321).word(302, 0x8765)
         .program(Code.one(0, growing)).run(0).hasWorkspace(0x320).hasCounter(0x364).hasStatus(0xA5A5)
         .hasWord(0x320 + 26, 512).hasWord(0x320 + 28, 258).hasWord(0x320 + 30, 0xA5A5).hasRegister(5, 303);
+    new Bench(checks, "0400h").register(0, 800).register(1, 90).program(0x0400)
+        .run(0).hasWorkspace(800).hasCounter(90).hasWord(826, 512);
     new Bench(checks, "switch through Rn itself").register(5, 800).register(6, 90).program(Code.one(0, 5))
         .run(0).hasWorkspace(800).hasCounter(90);
     new Bench(checks, "switch through the last word").word(1022, 800).word(0, 90)

@@ -21,11 +21,17 @@ public final class RegisterAndOperandTest {
           .register(7, row[3]).program(Code.register(row[0], 7, 1))
           .run(0).hasRegister(7, row[4]).hasRegister(1, row[2]).hasStatus(row[5]).hasCounter(258);
     }
+    first();
     products();
     quotients();
     extendedCalls();
     extendedCallsTellTheAddress();
     checks.end();
+  }
+
+  private static void first() {
+    new Bench(checks, "2000h").register(0, 0x1234).program(0x2000).run(0).hasStatus(0x2000).hasCounter(258)
+        .hasRegister(0, 0x1234);
   }
 
   private static void product(int s, int d, int upper, int lower) {
@@ -62,6 +68,7 @@ public final class RegisterAndOperandTest {
     quotient(3, 2, 0xFFFF, 0xFFFF, 2);
     quotient(0xFFFF, 0xFFFE, 0xFFFF, 0xFFFF, 0xFFFE);
     quotient(0x8000, 0x7FFF, 0xFFFF, 0xFFFF, 0x7FFF);
+    quotient(0xC000, 0x9000, 0x1234, 0xC000, 0x1234);
     quotient(1, 0, 0xFFFF, 0xFFFF, 0);
     noQuotient(0, 0, 0);
     noQuotient(0, 0, 5);
@@ -73,9 +80,9 @@ public final class RegisterAndOperandTest {
 
   private static void extendedCalls() {
     for (int d = 0; d < 16; d++) {
-      new Bench(checks, "extended call " + d).status(0xC1F5).word(64 + 4 * d, 0x8800 | 801).word(66 + 4 * d, 0x0443)
-          .program(Code.register(11, d, 4)).run(0).hasWorkspace(800).hasCounter(0x42).hasStatus(0xC3F5)
-          .hasWord(822, 520).hasWord(826, 512).hasWord(828, 258).hasWord(830, 0xC1F5);
+      new Bench(checks, "extended call " + d).status(0xC1F4).word(64 + 4 * d, 0x8800 | 801).word(66 + 4 * d, 0x0443)
+          .program(Code.register(11, d, 4)).run(0).hasWorkspace(800).hasCounter(0x42).hasStatus(0xC3F4)
+          .hasWord(822, 520).hasWord(826, 512).hasWord(828, 258).hasWord(830, 0xC1F4);
     }
   }
 
