@@ -1,11 +1,31 @@
-/** Counts the answers of one test and prints those that are not due. */
+/**
+ * Counts the answers of one test and prints those that are not due, with the document's sentence that is
+ * being tested where the test names one.
+ */
 final class Checks {
   private final String test;
   private int passed;
   private int failed;
+  private String sentence = "";
+  private int beforeSentence;
 
   Checks(String test) {
     this.test = test;
+  }
+
+  /** What is checked from here on belongs to these words of the document. */
+  void sentence(String words) {
+    endSentence();
+    sentence = words;
+    beforeSentence = passed + failed;
+  }
+
+  /** A sentence without an answer would look tested and not be. */
+  private void endSentence() {
+    if (!sentence.isEmpty() && beforeSentence == passed + failed) {
+      failed++;
+      System.out.println(test + ": nothing was checked for \"" + sentence + "\"");
+    }
   }
 
   void same(String what, long got, long due) {
@@ -13,7 +33,8 @@ final class Checks {
       passed++;
     } else {
       failed++;
-      System.out.println(test + ": " + what + ": got " + hex(got) + ", due is " + hex(due));
+      String said = sentence.isEmpty() ? "" : " \"" + sentence + "\"";
+      System.out.println(test + said + ": " + what + ": got " + hex(got) + ", due is " + hex(due));
     }
   }
 
@@ -33,6 +54,7 @@ final class Checks {
   }
 
   void end() {
+    endSentence();
     System.out.println(test + ": " + passed + " answers as due, " + failed + " not");
     if (failed != 0 || passed == 0) {
       System.exit(1);
