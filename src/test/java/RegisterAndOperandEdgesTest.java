@@ -5,6 +5,7 @@ public final class RegisterAndOperandEdgesTest {
   private static final int LINES_TO = 13;
 
   public static void main(String[] args) {
+    firstAndLast();
     everyRegisterIsD();
     allOnes();
     noOnes();
@@ -29,6 +30,14 @@ public final class RegisterAndOperandEdgesTest {
 
   private static String hex(int v) {
     return Integer.toHexString(v) + "h";
+  }
+
+  private static void firstAndLast() {
+    checks.sentence("By the highest six bits 8 .. 15");
+    bench("1FFFh asks a line").register(12, 4).wires(1, "1").program(0x1FFF).run(0).hasStatus(Due.E);
+    bench("2000h").register(0, 0x1234).program(0x2000).run(0).hasStatus(Due.E).hasRegister(0, 0x1234);
+    bench("3FFFh").register(15, 300).register(16, 5).word(300, 303).program(0x3FFF).run(0)
+        .hasRegister(15, (302 * 65536 + 5) / 303).hasRegister(16, (302 * 65536 + 5) % 303).hasStatus(0);
   }
 
   private static void everyRegisterIsD() {
@@ -191,7 +200,8 @@ public final class RegisterAndOperandEdgesTest {
         // The lines beside them are 1 and must not come in.
         bench(count + " lines to " + hex(values)).register(12, 40).register(1, 0xA55A).wires(19, "1")
             .wires(20, bits(v, count) + "1").program(Code.register(LINES_TO, d, 1)).run(0).hasRegister(1, due)
-            .hasLines(19, "1" + bits(v, count) + "1").hasRegister(12, 40);
+            .hasLines(19, "1" + bits(v, count) + "1").hasRegister(12, 40)
+            .hasStatus(count <= 8 ? Due.tested(values * 256) | Due.parity(values) : Due.tested(values));
       }
     }
     bench("8 lines to a lower half").register(1, 301).word(300, 0x5A5A).wires(0, "100000011")

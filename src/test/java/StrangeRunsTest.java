@@ -45,6 +45,7 @@ public final class StrangeRunsTest {
     boolean stays = x.state(0) == workspace && x.state(1) == counter && x.state(2) == status;
     boolean isEven = ((x.state(0) | x.state(1)) & ~1022) == 0;
     boolean isWord = (x.state(2) & ~0xFFFF) == 0;
-    return isEven && isWord && answer >= 0 && answer <= 3 && (answer < 2 || stays) && (answer == 1) == (x.state(4) == 1);
+    boolean isAnswer = answer >= 0 && answer <= 3 && (answer == 1) == (x.state(4) == 1);
+    return isEven && isWord && isAnswer && (answer < 2 || stays);
   }
 }

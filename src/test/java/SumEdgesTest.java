@@ -6,6 +6,7 @@ public final class SumEdgesTest {
   private static final int[] BEFORE = {0x0000, 0xFFFF};
 
   public static void main(String[] args) {
+    firstAndLast();
     sumsOfWordsTurn();
     sumsOfWords();
     sumsOfBytes();
@@ -28,6 +29,13 @@ public final class SumEdgesTest {
   private static void due(int operation, int before, int s, int d, int result, int status) {
     new Bench(checks, operation + " of s " + hex(s) + " and d " + hex(d)).status(before).register(1, s).register(2, d)
         .program(Code.two(operation, 1, 2)).run(0).hasRegister(2, result).hasRegister(1, s).hasStatus(status);
+  }
+
+  private static void firstAndLast() {
+    checks.sentence("By the highest four bits 4 .. 15");
+    new Bench(checks, "4000h").register(0, 0x1234).program(0x4000).run(0).hasRegister(0, 0).hasStatus(Due.E);
+    new Bench(checks, "FFFFh").register(15, 301).word(300, 0x8010).program(0xFFFF).run(0).hasWord(300, 0x8010)
+        .hasRegister(15, 303).hasWord(302, 0x1000).hasStatus(Due.L | Due.A | Due.P);
   }
 
   private static void sumsOfWordsTurn() {
